@@ -171,6 +171,9 @@ final class Model {
 
     // ---- texts: read and worked at once
 
+    private static final List<String> NAMES = List.of("thing", "words", "ways", "number", "day", "had");
+    private static final List<String> WORDS = List.of("thing", "words", "ways", "number", "day", "had",
+        "gives", "glads", "costs", "or", "and", "not");
     private String src;
     private int pos, evalOne, evalPart, evalThing, evalWords, evalWays;
     private boolean working;
@@ -212,12 +215,18 @@ final class Model {
     private String peek() {
         while (pos < src.length() && (src.charAt(pos) == ' ' || src.charAt(pos) == '\n')) pos++;
         if (pos == src.length()) return "";
-        String rest = src.substring(pos);
-        String token = rest.replaceFirst("(?s)^([a-z]+|[0-9]+|[();+\\-*<=])?.*$", "$1");
-        if (token.isEmpty()) throw new Fault(pos);
-        if (token.matches("[0-9]{5,}")) throw new Fault(pos);
-        if (token.matches("[a-z]+")
-                && !token.matches("thing|words|ways|number|day|had|gives|glads|costs|or|and|not")) throw new Fault(pos);
+        int end = pos + 1;
+        char first = src.charAt(pos);
+        if (Character.isLowerCase(first) && first < 128) {
+            while (end < src.length() && "abcdefghijklmnopqrstuvwxyz".indexOf(src.charAt(end)) >= 0) end++;
+        } else if ("0123456789".indexOf(first) >= 0) {
+            while (end < src.length() && "0123456789".indexOf(src.charAt(end)) >= 0) end++;
+            if (end - pos > 4) throw new Fault(pos);
+        } else if ("();+-*<=".indexOf(first) < 0) {
+            throw new Fault(pos);
+        }
+        String token = src.substring(pos, end);
+        if (Character.isLowerCase(first) && !WORDS.contains(token)) throw new Fault(pos);
         return token;
     }
 
@@ -294,11 +303,11 @@ final class Model {
             take(")");
             return v;
         }
-        if (token.matches("[0-9]+")) {
+        if (!token.isEmpty() && Character.isDigit(token.charAt(0))) {
             pos += token.length();
             return Integer.parseInt(token);
         }
-        if (!token.matches("thing|words|ways|number|day|had")) throw new Fault(pos);
+        if (!NAMES.contains(token)) throw new Fault(pos);
         pos += token.length();
         return working ? named(token) : 0;
     }

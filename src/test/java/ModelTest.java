@@ -5,12 +5,17 @@ public final class ModelTest {
     private static WellGivesOther x;
     private static Model m;
     private static String where;
+    private static boolean wild;
+    private static final int[] WILD = {Integer.MIN_VALUE, Integer.MIN_VALUE + 1, -4096, -12, -2, -1, 0, 1, 2, 3, 4, 5, 6, 7, 9,
+        10, 11, 12, 13, 31, 32, 33, 40, 41, 159, 160, 255, 256, 999, 1000, 4095, 4096, 9999, 10000, 65535, 65536,
+        Integer.MAX_VALUE - 1, Integer.MAX_VALUE};
 
     public static void main(String[] args) {
         for (int run = 0; run < 160; run++) {
             state = 1000003L * run + 17;
             x = new WellGivesOther();
             m = new Model();
+            wild = run % 8 == 7;
             int calls = 0;
             if (run % 4 != 0) calls += setUp(run);
             for (; calls < 512; calls++) {
@@ -28,6 +33,7 @@ public final class ModelTest {
 
     /** Mostly a number from least to most, now and then one that is just or far outside. */
     private static int from(int least, int most) {
+        if (wild && roll(3) == 0) return WILD[roll(WILD.length)];
         int odd = roll(40);
         if (odd == 0) return least - 1;
         if (odd == 1) return most + 1;
