@@ -51,8 +51,12 @@ public final class BestTest {
         due.is("gladdest clerk how", 1, x.gladdest(0, 1));
         due.is("gladdest asker", Due.set(0, 1, 2), x.gladdest(1, 0));
         due.is("gladdest asker how", 3, x.gladdest(1, 1));
-        Due.read(x, "gives 0;glads 0-thing-1;costs 0;");
+        Due.read(x, "gives 0;glads thing=1;costs 0;");
         x.force(1);
+        due.is("gladdest by 0", Due.set(0), x.gladdest(1, 0));
+        due.is("gladdest by 0 how", 1, x.gladdest(1, 1));
+        Due.read(x, "gives 0;glads 0-thing-1;costs 0;");
+        x.force(2);
         due.is("gladdest below 0", Due.set(1), x.gladdest(1, 0));
         due.is("gladdest below 0 how", -1, x.gladdest(1, 1));
         x.set(2, 1, 4095);
@@ -70,6 +74,8 @@ public final class BestTest {
         due.is("get 2 costs", 2, x.get(0, 2, 1));
         due.is("get never", -1, x.get(0, 4, 0));
         due.is("get never costs", -1, x.get(0, 4, 1));
+        due.is("get by 0", Due.set(0), x.get(0, 1, 0));
+        due.is("get by 0 costs", 1, x.get(0, 1, 1));
         Due.read(x, "gives 0;glads 0;costs 9-words;");
         x.force(1);
         due.is("get cheaper by more", Due.set(1, 2, 3), x.get(0, 0, 0));
@@ -87,6 +93,11 @@ public final class BestTest {
         due.is("map all", 21, x.map(1));
         Due.fill(x, 2);
         due.is("map none", 0, x.map(2));
+        Due.fill(x, 3, Due.set(5), 3);
+        due.is("map one", 1, x.map(3));
+        Due.fill(x, 3, Due.set(2, 5, 7), 9, Due.set(9), 2, Due.set(11), 0, Due.set(0), 11);
+        due.is("map few", 4, x.map(3));
+        x.sheet(3, -1, 0);
         due.is("map missing", -11, x.map(3));
         due.is("map sheet", -2, x.map(4));
         due.is("map sheet", -2, x.map(-1));
@@ -112,6 +123,11 @@ public final class BestTest {
         x.like(10, 3, 1);
         due.is("nearest", 10, x.net(1));
         due.is("nearest how many", 3, x.net(2));
+        due.is("a way is no clique", 1, x.net(0));
+        x.like(3, 0, 1);
+        x.like(0, 10, 1);
+        due.is("another clique", 2, x.net(0));
+        due.is("twos", 7, x.net(3));
         for (int a = 0; a < 12; a++) for (int b = 0; b < a; b++) x.like(a, b, 1);
         int[] all = {220, 0, 11, 66};
         for (int what = 0; what < 4; what++) due.is("net all " + what, all[what], x.net(what));

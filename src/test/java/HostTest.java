@@ -24,6 +24,14 @@ public final class HostTest {
         due.is("behind 40", -12, x.cell(0, 40, 9));
         due.is("anew", 1, x.sheet(0, 2, 40));
         due.is("all 0", 0, x.map(0));
+        for (int i = 0; i < 40; i++) x.cell(0, i, 1);
+        x.sheet(0, 2, 40);
+        due.is("all 0 anew", 0, x.map(0));
+        x.cell(0, 0, 2);
+        x.cell(0, 1, 0);
+        due.is("not all 0", 1, x.map(0));
+        x.sheet(0, 2, 40);
+        due.is("the first 0 anew", 0, x.map(0));
         due.is("refused", -14, x.sheet(0, 0, -5));
         due.is("as it was", 1, x.cell(0, 39, 9));
         due.is("sheet of none", 1, x.sheet(1, 0, 0));

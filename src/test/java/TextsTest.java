@@ -83,6 +83,10 @@ public final class TextsTest {
         fault(6, "gives days;");
         fault(6, "gives da;");
         fault(6, "gives numberr;");
+        fault(6, "gives dayz;");
+        fault(6, "gives a;");
+        for (char c = 1; c < 10; c++) fault(8, "gives 1 " + c + " 1;glads 1;costs 1;");
+        for (char c = 1; c < 10; c++) fault(6, "gives " + c + ";glads 1;costs 1;");
         fault(6, "gives Day;");
         fault(6, "gives 12345;");
         fault(6, "gives 00000;");
@@ -122,6 +126,15 @@ public final class TextsTest {
     }
 
     private static void full() {
+        // What a FAULT broke off leaves nothing for the next text.
+        WellGivesOther y = new WellGivesOther();
+        y.asker(0, 0);
+        due.is("fault", -122, Due.read(y, "gives 5;glads 6;costs *;"));
+        due.is("text behind it", 1, Due.read(y, "gives 2;glads 3;costs 4;"));
+        y.force(1);
+        due.is("gives", 3, y.asks(0, 1, 1));
+        due.is("glads", 3, y.glad(0, 1));
+        due.is("costs", 4, y.asks(0, 1, 3));
         WellGivesOther x = new WellGivesOther();
         for (int i = 1; i < 6; i++) due.is("text", i, Due.read(x, "gives 1;glads 2;costs 3;"));
         due.is("texts", 6, x.count(3));
@@ -185,6 +198,10 @@ public final class TextsTest {
         value(1, "0 or -1");
         value(1, "5 and 6");
         value(0, "5 and 0");
+        value(0, "0 and 5");
+        value(1, "1 and 1");
+        value(1, "1 or 1");
+        value(1, "0 or 1");
         value(1, "1 or 0 and 0");
         value(0, "(1 or 0) and 0");
         value(1, "0 and 0 or 7");

@@ -93,7 +93,15 @@ public final class ThingsTest {
         // A CLERK gets the first that is OPEN: 3 sets of 3 leave none ahead of THING 3.
         due.is("told never clerk", 0xff0, x.told(0, 6));
         x.set(2, 0, 0x00f);
-        due.is("told never clerk shut", 0xf0f & ~0, x.told(0, 6));
+        due.is("told never clerk shut", 0xf0f, x.told(0, 6));
+        WellGivesOther y = new WellGivesOther();
+        y.asker(0, 0);
+        Due.read(y, "gives words=1 and had=0;glads 0;costs 0;");
+        y.force(1);
+        // By one word the second that is OPEN, by two or three the first.
+        due.is("told never by words", 0xff0, y.told(0, 6));
+        y.set(2, 0, 0x1fe);
+        due.is("told never by words", 0x1fe, y.told(0, 6));
         due.is("told what", -2, x.told(0, 8));
         due.is("told what", -2, x.told(0, -1));
         due.is("told one", -2, x.told(-1, 1));
@@ -167,6 +175,22 @@ public final class ThingsTest {
         x.force(1);
         // -3 modulo 11 is 8: the ninth of 1 .. 11; 9 modulo 2 is 1.
         due.is("given below 0", 9, x.asks(0, 1, 1));
+        due.is("text", 2, Due.read(x, "gives ways-2; glads 0; costs 0;"));
+        due.is("text", 3, Due.read(x, "gives thing*5+words+number+had-10; glads 0; costs 0;"));
+        due.is("text", 4, Due.read(x, "gives 150; glads 0; costs 0;"));
+        due.is("text", 5, Due.read(x, "gives 0-150; glads 0; costs 0;"));
+        x.force(2);
+        due.is("given by ways: the last but one", 10, x.asks(0, 1, 1));
+        due.is("given by ways: of two", 3, x.asks(0, 4095 & ~Due.set(3, 9), 1));
+        x.force(3);
+        x.set(3, 0, Due.set(2, 4));
+        // 0 + 3 + 9 + 2 - 10 is 4: the fifth of 3 .. 11.
+        due.is("given by words, number, had", 7, x.asks(0, Due.set(0, 1, 2), 1));
+        x.force(4);
+        // 99 modulo 10 is 9, -99 modulo 10 is 1.
+        due.is("given 99 at most", 11, x.asks(0, Due.set(0, 1), 1));
+        x.force(5);
+        due.is("given -99 at least", 3, x.asks(0, Due.set(0, 1), 1));
         due.is("given by number", 3, x.asks(1, 4095 & ~Due.set(1, 3), 1));
     }
 

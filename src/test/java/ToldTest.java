@@ -36,6 +36,17 @@ public final class ToldTest {
         due.is("otherwise", 3, x.tells(1, 0, 0));
         due.is("otherwise days", 0, x.tells(1, 0, 3));
         due.is("otherwise least", -1, x.tells(1, 0, 4));
+        Due.fill(x, 3, 12);
+        tells(x, 3, 0, 0, 0, 0, 0, -1, 0, 0, 0);
+        // Day 100 is not told of: by DAY, 99 at most, the hundredth and on would be the same.
+        Due.read(x, "gives day=100;glads 0;costs 0;");
+        x.force(4);
+        Due.fill(x, 3, 2);
+        due.is("days up to 99", 0, x.tells(3, 0, 3));
+        due.is("least up to 99", -1, x.tells(3, 0, 4));
+        Due.fill(x, 3, 1);
+        due.is("all days up to 99", 100, x.tells(3, 0, 3));
+        x.force(0);
         x.set(2, 0, Due.set(5));
         // THING 5 is not OPEN, but 4 is still the fourth.
         due.is("things as 5 is shut", Due.set(5, 6, 7, 8, 9, 10, 11), x.tells(0, 0, 5));
@@ -46,7 +57,7 @@ public final class ToldTest {
         due.is("askers as 0 is shut", 2, x.tells(0, 0, 7));
         x.set(2, 0, 4095);
         Due.fill(x, 2, -1, -1, -1, -1, -1, -1, -1, -1, -1, -1, -1, -1);
-        tells(x, 2, 0, -1, 1 | 2 | 4 | 16 | 32, 1023, 100, 0, 0, 15, 1);
+        tells(x, 2, 0, -1, 1 | 2 | 4 | 16 | 32, 1023, 100, 0, 0, 31, 1);
         due.is("no such thing is given", 0, told(x, 3, 12));
         due.is("no such thing is given", 0, told(x, 3, -2));
         // Nothing truly became otherwise.
@@ -136,6 +147,21 @@ public final class ToldTest {
                 for (int d = 2; d <= 20; d++) due.isTrue("lowest terms", above % d != 0 || below % d != 0);
             }
         }
+        // SEED and each 1 more, not 1 less: some seeds tell these apart.
+        WellGivesOther y = new WellGivesOther();
+        y.asker(0, 0);
+        Due.read(y, "gives had*5;glads 0;costs 0;");
+        y.force(1);
+        int apart = 0;
+        for (int seed = -20; seed < 20; seed++) {
+            int enough = 0;
+            int less = 0;
+            for (int i = 0; i < 3; i++) if (y.drawn(seed + i, 0, 6) >= 5) enough++;
+            for (int i = 0; i < 3; i++) if (y.drawn(seed - i, 0, 6) >= 5) less++;
+            due.is("chance by seeds", enough == 3 ? 1 : enough, y.chance(seed, 3, 0, 5, 0));
+            if (enough != less) apart++;
+        }
+        due.isTrue("seeds tell apart", apart > 0);
         // OLD had six by six askings.
         due.is("surely", 1, x.chance(1, 20, 0, 6, 0));
         due.is("surely", 1, x.chance(1, 20, 0, 6, 1));
