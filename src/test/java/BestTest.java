@@ -114,6 +114,11 @@ public final class BestTest {
         WellGivesOther x = new WellGivesOther();
         int[] none = {0, 0, 0, 0};
         for (int what = 0; what < 4; what++) due.is("net none " + what, none[what], x.net(what));
+        x.like(1, 2, 1);
+        x.like(1, 3, 1);
+        due.is("nearest 1", 1, x.net(1));
+        x.like(1, 2, 0);
+        x.like(1, 3, 0);
         x.like(11, 10, 1);
         x.like(10, 9, 1);
         x.like(9, 11, 1);

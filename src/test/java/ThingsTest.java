@@ -147,6 +147,13 @@ public final class ThingsTest {
             due.is("open to the last of " + kind, twin ? 0 : 1, x.asks(1, 1, 0) >> 7 & 1);
             due.is("open by all", 0, x.asks(0, 4095, 0));
         }
+        // 0 is LIKE one of it: OPEN to a CLERK and a BISHOP; LIKE two of it: to none.
+        for (int kind = 0; kind < 6; kind++) {
+            WellGivesOther x = likingWell(kind, 0);
+            due.is("0 by 1 to " + kind, kind == 1 || kind == 3 ? 1 : 0, x.asks(0, Due.set(1), 0) & 1);
+            due.is("0 by 1, 2 to " + kind, 0, x.asks(0, Due.set(1, 2), 0) & 1);
+            due.is("2 by 0 to " + kind, kind == 1 || kind == 3 ? 4 : 0, x.asks(0, Due.set(0, 11), 0) & 4);
+        }
         // One who is alone is not held off from what it HAD itself.
         WellGivesOther x = likingWell(2, 0);
         x.set(3, 0, 4095);
@@ -175,13 +182,14 @@ public final class ThingsTest {
         x.force(1);
         // -3 modulo 11 is 8: the ninth of 1 .. 11; 9 modulo 2 is 1.
         due.is("given below 0", 9, x.asks(0, 1, 1));
-        due.is("text", 2, Due.read(x, "gives ways-2; glads 0; costs 0;"));
+        due.is("text", 2, Due.read(x, "gives (ways=11)*2+(ways=4)*6; glads 0; costs 0;"));
         due.is("text", 3, Due.read(x, "gives thing*5+words+number+had-10; glads 0; costs 0;"));
         due.is("text", 4, Due.read(x, "gives 150; glads 0; costs 0;"));
         due.is("text", 5, Due.read(x, "gives 0-150; glads 0; costs 0;"));
         x.force(2);
-        due.is("given by ways: the last but one", 10, x.asks(0, 1, 1));
+        due.is("given by ways: of eleven", 3, x.asks(0, 1, 1));
         due.is("given by ways: of two", 3, x.asks(0, 4095 & ~Due.set(3, 9), 1));
+        due.is("given by ways: of four", 7, x.asks(0, 4095 & ~Due.set(3, 5, 7, 9), 1));
         x.force(3);
         x.set(3, 0, Due.set(2, 4));
         // 0 + 3 + 9 + 2 - 10 is 4: the fifth of 3 .. 11.
