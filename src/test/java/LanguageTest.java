@@ -14,7 +14,7 @@ import java.util.regex.Pattern;
 
 /** The rules of LANGUAGE.md that can be seen from outside or by plain reading, and the document's face. */
 public final class LanguageTest {
-    private static final Due due = new Due();
+    private static final Due due = new Due("LANGUAGE.md");
     private static final String[] FACE = {
         "int like(int,int,int)", "int set(int,int,int)", "int asker(int,int)", "int told(int,int)", "int asks(int,int,int)",
         "int glad(int,int)", "int feed(int)", "int text()", "int force(int)", "int ask(int,int)", "int day()",
@@ -25,14 +25,17 @@ public final class LanguageTest {
         "int taken(int,int)"};
 
     public static void main(String[] args) throws IOException {
+        due.sentence("1: the face");
         face();
+        due.sentence("2, 3, 5, 6, 11: classes, fields and methods");
         for (Class<?> c : WellGivesOther.class.getDeclaredClasses()) inside(c);
         due.isTrue("twelve classes at most", WellGivesOther.class.getDeclaredClasses().length < 12);
         members(WellGivesOther.class);
+        due.sentence("3, 4, 6, 11: what the file says");
         String source = Files.readString(Path.of("src/main/java/WellGivesOther.java"), StandardCharsets.ISO_8859_1);
         words(source);
         lengths(source);
-        due.end("LanguageTest");
+        due.end();
     }
 
     private static void face() {

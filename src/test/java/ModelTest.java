@@ -1,6 +1,6 @@
 /** Long runs of calls, by a fixed row of numbers, that the class and the model must answer alike. */
 public final class ModelTest {
-    private static final Due due = new Due();
+    private static final Due due = new Due("all promises, against Model");
     private static long state;
     private static WellGivesOther x;
     private static Model m;
@@ -11,6 +11,7 @@ public final class ModelTest {
         Integer.MAX_VALUE - 1, Integer.MAX_VALUE};
 
     public static void main(String[] args) {
+        due.sentence("the class and the model answer alike");
         for (int run = 0; run < 160; run++) {
             state = 1000003L * run + 17;
             x = new WellGivesOther();
@@ -23,7 +24,7 @@ public final class ModelTest {
                 step(run);
             }
         }
-        due.end("ModelTest");
+        due.end();
     }
 
     private static int roll(int n) {
