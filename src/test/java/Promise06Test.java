@@ -84,6 +84,12 @@ public final class Promise06Test {
             x.like(3, 6, 1);
             due.is("3 by 4, 5, 6", 0, open(x, 0, 4, 5, 6) >> 3 & 1);
             due.is("by 4, 6", ALL & ~Wells.set(3, 4, 6), open(x, 0, 4, 6));
+            // Whether what it is not LIKE stands behind, between or ahead.
+            due.is("3 by 4, 5, 9", 0, open(x, 0, 4, 5, 9) >> 3 & 1);
+            due.is("3 by 2, 4, 5", 0, open(x, 0, 2, 4, 5) >> 3 & 1);
+            x.like(3, 5, 0);
+            due.is("3 by 4, 5, 6, not LIKE 5", 0, open(x, 0, 4, 5, 6) >> 3 & 1);
+            due.is("3 by 4, 5, not LIKE 5", 1, open(x, 0, 4, 5) >> 3 & 1);
         }
     }
 
@@ -312,6 +318,10 @@ public final class Promise06Test {
             due.is("gives " + told[i], things[gives[i] % 7], x.asks(0, 3, 1));
             due.is("costs " + told[i], costs[i], x.asks(0, 3, 3));
         }
+        WellGivesOther y = Wells.of(ASKER);
+        Wells.rule(y, "gives 3+thing;glads 0;costs 50+thing+ways;");
+        due.is("of gives thing: 0", 4, y.asks(0, 1, 1));
+        due.is("of costs thing, ways: 0", 50, y.asks(0, 1, 3));
         WellGivesOther z = Wells.of(ASKER);
         Wells.rule(z, "gives ways=4;glads 0;costs 0;");
         due.is("ways of five", 0, z.asks(0, ALL & ~31, 1));

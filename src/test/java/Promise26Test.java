@@ -30,7 +30,10 @@ public final class Promise26Test {
         x.like(0, 11, 1);
         x.image();
         x.like(3, 4, 0);
+        x.like(0, 11, 0);
         x.like(5, 6, 1);
+        x.like(0, 1, 1);
+        x.like(10, 11, 1);
         x.back();
         int[] like = {2048, 0, 0, 16, 8, 0, 0, 0, 0, 0, 0, 1};
         for (int thing = 0; thing < 12; thing++) due.is("told(" + thing + ", 7)", like[thing], x.told(thing, 7));
