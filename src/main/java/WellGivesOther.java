@@ -411,9 +411,10 @@ public final class WellGivesOther {
     private Visit visitOf(int one) {
         Asker asker = seat(one);
         if (asker == null) return null;
-        Asker next = seat(one + 1 < askerCount ? one + 1 : 0);
+        int behind = one + 1 < askerCount ? one + 1 : 0;
         // One who is alone has no next one.
-        int nextHad = next == null || next == asker ? 0 : next.had;
+        Asker next = behind == one ? null : seat(behind);
+        int nextHad = next == null ? 0 : next.had;
         thought.begin(asker, nextHad, today, textAt(rule));
         return thought;
     }
